@@ -310,6 +310,28 @@ public final class PromiseTest {
         due("what a last gate takes", x.passages(lay(x, 0, 4, 0), 2, 0, 1, 24), 10);
         due("deaf", x.passages(lay(x, 0, 0, 0), 2, 0, 1, 20), 0);
         due("no such story", x.passages(lay(x, 0, 0, 0), 2, 0, 1, 11), NONE);
+        fullRoutes();
+    }
+
+    private static void fullRoutes() {
+        GossipGate x = Check.in("j,g16,g26,g36,g46;910;920;930;940");
+        int[] cells = new int[36];
+        for (int p = 0; p < 12; p++) {
+            cells[3 * p] = p / 3;
+            cells[3 * p + 1] = p % 3;
+        }
+        lay(x, cells);
+        for (int again = 0; again < 2; again++) {
+            asked(x, 12, 0, 4 * (12 + 24 + 36));
+            asked(x, 1, 0, 12);
+            asked(x, 12, 22, 4 * 36);
+            asked(x, 12, 23, 0);
+            for (int s = 0; s < 4; s++) {
+                asked(x, 12, 10 + s, 0);
+            }
+        }
+        due("another route between", x.passages(lay(x, 0, 0, 0, 0, 0, 0), 2, 0, 2, 0), 24);
+        due("leaves nothing behind", x.passages(lay(x, 0, 1, 0, 0, 0, 0), 2, 0, 2, 20), 12);
     }
 
     private static int lay(GossipGate x, int... cells) {
@@ -382,7 +404,7 @@ public final class PromiseTest {
         least(x, 0, 0, 18, 0, 0, 0);
         least(x, 0, 1, 13, 1, 1, 1);
         least(x, 0, 3, 4, 3, 3, 3);
-        // Halves are cut: on day 3 four for all three, four for two and one, three for each alone.
+        // Halves are cut: on day 3 four for all three, four for two and one apart, three if all go apart.
         least(Check.in("j,l16,l16;900"), 0, 3, 4, 3, 3, 3);
         least(Check.in("j,l16,l16,l16;900"), 0, 3, 3, 3, 13, 23);
         x = Check.in("j,s46;910");
