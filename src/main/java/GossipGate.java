@@ -473,7 +473,7 @@ public final class GossipGate {
             larger = smaller;
             smaller = rest;
         }
-        // A share of nothing has no ways at all: it must not become a divisor of 0.
+        // Without gates there are no ways at all, and 0 must not become a divisor.
         return larger > 0 ? larger : 1;
     }
 
