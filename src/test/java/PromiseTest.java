@@ -106,6 +106,7 @@ public final class PromiseTest {
             8, 8, 8, 9, 9, 10, 9,
             21, 9, 2, 6, 0};
         for (int f = 0; f < faults.length; f++) {
+            x = Check.in("j,l53;343;110");
             due("text " + faults[f], Check.text(x, faults[f]), -100 - places[f]);
             due("a fault changes nothing", x.ofGate(0, 0) * 100 + x.ofGate(0, 1) * 10 + x.many(0), 252);
             due("a text's fault is none of the machine's", x.fault(), 0);
